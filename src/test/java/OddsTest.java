@@ -54,6 +54,7 @@ public final class OddsTest {
         Due.is("the next square", x.tail(2, 2, 5), GREW);
         Due.made("8^20", x, x.tail(20, 20, 6), 1, 1L << 60);
         Due.is("8^21 is 2^63", x.tail(21, 21, 6), GREW);
+        Due.is("wide long before the last trial", x.tail(60, 1, 6), GREW);
     }
 
     private static void tailRefusals() {
