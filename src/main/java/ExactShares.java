@@ -283,7 +283,7 @@ public final class ExactShares {
         if (what == ROWS + 1) {
             return grown;
         }
-        return what < 0 || what > ROWS ? BAD : sizes[what - 1];
+        return what < 1 || what > ROWS ? BAD : sizes[what - 1];
     }
 
     // What the calls on numbers stand on.
@@ -535,6 +535,7 @@ public final class ExactShares {
         return result;
     }
 
+    /** At least 1, so that it may always divide. */
     private static long greatestDivisor(long x, long y) {
         long a = Math.abs(x);
         long b = Math.abs(y);

@@ -99,7 +99,8 @@ public final class NumbersTest {
     }
 
     private static void products() {
-        ExactShares x = Due.with(1, 6, 1, 10, 4, 9, 3, 2, 0, 1, MAX, 2, 2, MAX, -4, 3, 1L << 62, 1, -2, 1, MAX, 1, 1, MAX);
+        ExactShares x = Due.with(1, 6, 1, 10, 4, 9, 3, 2, 0, 1, MAX, 2, 2, MAX, -4, 3, 1L << 62, 1, -2, 1,
+            MAX, 1, 1, MAX);
         Due.made("1/6 * 1/10", x, x.act(2, 0, 1), 1, 60);
         Due.made("4/9 * 3/2", x, x.act(2, 2, 3), 2, 3);
         Due.made("0 * MAX/2", x, x.act(2, 4, 5), 0, 1);
