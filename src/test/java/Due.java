@@ -14,6 +14,14 @@ final class Due {
         }
     }
 
+    static void same(String what, String got, String due) {
+        asked++;
+        if (!got.equals(due)) {
+            wrong++;
+            System.out.println(what + " is " + got + ", due is " + due);
+        }
+    }
+
     /** Number a is u / v, part by part. */
     static void number(ExactShares x, int a, long u, long v) {
         is("part(" + a + ", 0)", x.part(a, 0), u);

@@ -1,9 +1,10 @@
 import java.util.Random;
 
-/** Runs of up to 512 calls with drawn arguments, the same at every run: each answer is the model's. */
+/** Runs of at most 512 calls with drawn arguments, the same every time: each answer is the model's. */
 public final class ModelTest {
-    private static final int RUNS = 200;
-    private static final int CALLS = 512;
+    private static final int RUNS = 1000;
+    /** Of 512 calls those that the look at all of the object in the end leaves, and one step at most. */
+    private static final int CALLS = 512 - 136 - 3;
     private static final long[] EDGES = {0, 1, 2, 3, 7, 10, 1000000, 1L << 31, 3037000499L, 3037000500L, 1L << 32,
         1L << 62, (1L << 62) - 1, Long.MAX_VALUE, Long.MAX_VALUE - 1, Long.MAX_VALUE - 2, Long.MIN_VALUE,
         7540113804746346429L, 4660046610375530309L, 4052555153018976267L, 1000000000000000L};
@@ -13,6 +14,7 @@ public final class ModelTest {
     private final ExactShares x = new ExactShares();
     private final Model model = new Model();
     private final int run;
+    private int used = 0;
     private String call = "";
     private long due;
 
@@ -24,9 +26,10 @@ public final class ModelTest {
     public static void main(String[] args) {
         for (int run = 0; run < RUNS; run++) {
             ModelTest one = new ModelTest(run);
-            for (int i = 0; i < CALLS; i++) {
+            while (one.used <= CALLS) {
                 one.step();
             }
+            one.lookAtAll();
         }
         Due.end();
     }
@@ -37,15 +40,35 @@ public final class ModelTest {
         boolean crowded = before > (run % 3 == 0 ? 39 : 12) && random.nextInt(3) > 0;
         long got = crowded ? drop() : random.nextInt(3) > 0 ? onNumbers() : random.nextBoolean() ? onRows() : onOdds();
         Due.is("run " + run + ": " + call, got, due);
+        used++;
         int after = model.numbers.size();
-        Due.is("run " + run + ": numbers after " + call, x.count(0), after);
-        if (after > 0) {
-            Due.is("run " + run + ": above after " + call, x.part(after - 1, 0), model.part(after - 1, 0));
-            Due.is("run " + run + ": below after " + call, x.part(after - 1, 1), model.part(after - 1, 1));
+        if (after > before) {
+            Due.is("run " + run + ": above of " + call, x.part(before, 0), model.part(before, 0));
+            Due.is("run " + run + ": below of " + call, x.part(before, 1), model.part(before, 1));
+            used += 2;
         }
-        Due.is("run " + run + ": grown after " + call, x.count(5), model.count(5));
-        Due.is("run " + run + ": given after " + call, x.given(0), model.given(0));
-        Due.is("run " + run + ": ways after " + call, x.ways(2), model.ways(2));
+    }
+
+    private void lookAtAll() {
+        String end = "run " + run + " in the end: ";
+        for (int what = 0; what <= 5; what++) {
+            Due.is(end + "count " + what, x.count(what), model.count(what));
+        }
+        for (int a = 0; a <= model.numbers.size(); a++) {
+            Due.is(end + "above of " + a, x.part(a, 0), model.part(a, 0));
+            Due.is(end + "below of " + a, x.part(a, 1), model.part(a, 1));
+        }
+        for (int row = 0; row < 4; row++) {
+            for (int k = 0; k <= 8; k++) {
+                Due.is(end + "row " + row + " value " + k, x.at(row, k), model.at(row, k));
+            }
+        }
+        for (int k = 0; k <= 8; k++) {
+            Due.is(end + "given " + k, x.given(k), model.given(k));
+        }
+        for (int what = 0; what <= 2; what++) {
+            Due.is(end + "ways " + what, x.ways(what), model.ways(what));
+        }
     }
 
     private long drop() {
