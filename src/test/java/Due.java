@@ -3,7 +3,26 @@ final class Due {
     private static int wrong = 0;
     private static int asked = 0;
 
+    /** Far above what any test takes, so that a call that does not end fails the test. */
+    private static final long SECONDS = 300;
+
+    static {
+        Thread watch = new Thread(Due::giveUp);
+        watch.setDaemon(true);
+        watch.start();
+    }
+
     private Due() {
+    }
+
+    private static void giveUp() {
+        try {
+            Thread.sleep(1000 * SECONDS);
+            System.out.println("a call does not end, or the test takes more than " + SECONDS + " seconds");
+        } catch (InterruptedException e) {
+            System.out.println("the watch was broken off");
+        }
+        Runtime.getRuntime().halt(1);
     }
 
     static void is(String what, long got, long due) {

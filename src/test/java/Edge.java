@@ -95,22 +95,39 @@ final class Edge {
 
     /** All that can be seen of an object but for how often GREW was answered, by at most 140 calls. */
     static String seen(ExactShares x) {
+        StringBuilder text = new StringBuilder(numbersOf(x));
+        for (int row = 0; row < 4; row++) {
+            text.append(", ").append(rowOf(x, row));
+        }
+        return text.append(", ").append(givenOf(x)).append(", ").append(waysOf(x)).toString();
+    }
+
+    static String numbersOf(ExactShares x) {
         StringBuilder text = new StringBuilder("numbers");
         int numbers = x.count(0);
         for (int a = 0; a <= numbers; a++) {
-            text.append(' ').append(x.part(a, 0)).append('/').append(x.part(a, 1));
+            text.append(a < numbers ? " " : ", then ").append(x.part(a, 0)).append('/').append(x.part(a, 1));
         }
-        for (int row = 0; row < 4; row++) {
-            text.append(", row of ").append(x.count(row + 1));
-            for (int k = 0; k <= 8; k++) {
-                text.append(' ').append(x.at(row, k));
-            }
+        return text.toString();
+    }
+
+    static String rowOf(ExactShares x, int row) {
+        StringBuilder text = new StringBuilder("row of ").append(x.count(row + 1));
+        for (int k = 0; k <= 8; k++) {
+            text.append(' ').append(x.at(row, k));
         }
-        text.append(", given");
+        return text.toString();
+    }
+
+    static String givenOf(ExactShares x) {
+        StringBuilder text = new StringBuilder("given");
         for (int k = 0; k <= 8; k++) {
             text.append(' ').append(x.given(k));
         }
-        return text.append(", ways ").append(x.ways(0)).append(' ').append(x.ways(1)).append(' ')
-            .append(x.ways(2)).toString();
+        return text.toString();
+    }
+
+    static String waysOf(ExactShares x) {
+        return "ways " + x.ways(0) + " " + x.ways(1) + " " + x.ways(2);
     }
 }

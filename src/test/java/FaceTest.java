@@ -38,7 +38,13 @@ public final class FaceTest {
         int seen = 0;
         for (Field field : ExactShares.class.getDeclaredFields()) {
             int modifiers = field.getModifiers();
-            seen += Modifier.isPrivate(modifiers) ? 0 : 1;
+            if (!Modifier.isPrivate(modifiers)) {
+                seen++;
+                String type = field.getName().equals("NOTHING") ? "long" : "int";
+                Due.same("type of " + field.getName(), field.getType().getSimpleName(), type);
+                Due.is(field.getName() + " is public static final", modifiers,
+                    Modifier.PUBLIC | Modifier.STATIC | Modifier.FINAL);
+            }
             boolean stateOfAll = Modifier.isStatic(modifiers) && !Modifier.isFinal(modifiers);
             Due.is(field.getName() + " is a static that is not final", stateOfAll ? 1 : 0, 0);
         }

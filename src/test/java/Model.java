@@ -204,6 +204,7 @@ final class Model {
         return new Fraction(from.above.add(to.above.multiply(steps)), from.below.add(to.below.multiply(steps)));
     }
 
+    /** Every lower part within the bound is tried; a gap is how far it is, times both lower parts. */
     long near(int a, int most) {
         if (none(a) || most < 1 || most > 1_000_000) {
             return BAD;
@@ -211,18 +212,27 @@ final class Model {
         if (full()) {
             return FULL;
         }
-        Fraction x = numbers.get(a), best = null, far = null;
+        Fraction x = numbers.get(a);
+        long v = x.below.longValueExact(), step = x.above.mod(x.below).longValueExact();
+        long gapBelow = 0, bestGap = v, best = 1;
+        boolean bestUp = false;
         for (int q = 1; q <= most; q++) {
-            for (boolean up : new boolean[] {false, true}) {
-                Fraction f = Fraction.of(x.timesCut(big(q), up), big(q));
-                Fraction d = x.distance(f);
-                if (best == null || d.compareTo(far) < 0) {
-                    best = f;
-                    far = d;
-                }
+            gapBelow = gapBelow >= v - step ? gapBelow - (v - step) : gapBelow + step;
+            boolean up = v - gapBelow < gapBelow;
+            long gap = up ? v - gapBelow : gapBelow;
+            if (productIsLess(gap, best, bestGap, q)) {
+                bestGap = gap;
+                best = q;
+                bestUp = up;
             }
         }
-        return add(best);
+        return add(Fraction.of(x.timesCut(big(best), bestUp), big(best)));
+    }
+
+    /** Whether a b is less than c d, none of them below 0, in 128 bits. */
+    private static boolean productIsLess(long a, long b, long c, long d) {
+        long high = Math.multiplyHigh(a, b), otherHigh = Math.multiplyHigh(c, d);
+        return high < otherHigh || high == otherHigh && Long.compareUnsigned(a * b, c * d) < 0;
     }
 
     long cut(int a, int digits, boolean up) {

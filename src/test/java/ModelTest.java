@@ -112,9 +112,7 @@ public final class ModelTest {
                 return x.simplest(a, b);
             }
             case 8: {
-                int most = random.nextInt(60) == 0 ? 2000 : pick(random.nextBoolean() ? 12 : 60);
-                // The model would try out a million.
-                most = most > 2000 && most <= 1000000 ? 2000 : most;
+                int most = random.nextInt(10) == 0 ? bound() : pick(random.nextBoolean() ? 12 : 60);
                 asked("near", a, most);
                 due = model.near(a, most);
                 return x.near(a, most);
@@ -224,6 +222,11 @@ public final class ModelTest {
 
     private int number() {
         return pick(Math.max(1, model.numbers.size()));
+    }
+
+    /** Of every size up to 1,000,000, that and the one behind it too. */
+    private int bound() {
+        return Math.min(1000000 + random.nextInt(2), random.nextInt(1 << random.nextInt(22)));
     }
 
     private long whole() {
