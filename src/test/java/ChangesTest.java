@@ -21,6 +21,7 @@ public final class ChangesTest {
         newNumbersChangeNoOther();
         grewIsCounted();
         rowsAndNumbersAreApart();
+        refusedChangesNothing();
         Due.end();
     }
 
@@ -221,5 +222,29 @@ public final class ChangesTest {
         Due.is("2: in place of the dropped one", x.value(1, 9), 2);
         Due.number(x, 1, 2, 3);
         Due.number(x, 2, 1, 9);
+    }
+
+    private static void refused(String what, int numbers, Edge.Call call, long due) {
+        ExactShares x = laden(numbers);
+        Due.is(what, Edge.answer(x, call), due);
+        Due.same(what + " changes nothing", String.join(", ", partsOf(x)), String.join(", ", partsOf(laden(numbers))));
+    }
+
+    /** The refusals that an object must be laden for, or bare. */
+    private static void refusedChangesNothing() {
+        refused("5: NONE", 0, x -> x.drop(), ExactShares.NONE);
+        for (int numbers : new int[] {0, 3, 40}) {
+            refused("11: FULL", numbers, x -> x.into(0, 4), ExactShares.FULL);
+            refused("11: BAD of a full row", numbers, x -> x.into(0, -4), ExactShares.BAD);
+            refused("11: BAD of an empty row", numbers, x -> x.into(2, 1000001), ExactShares.BAD);
+            refused("15: ZERO", numbers, x -> x.seats(2, 5, 1), ExactShares.ZERO);
+            refused("15: BAD", numbers, x -> x.seats(3, 2001, 1), ExactShares.BAD);
+            refused("19: NONE", numbers, x -> x.test(3, 2), ExactShares.NONE);
+            refused("19: BAD", numbers, x -> x.test(3, 3), ExactShares.BAD);
+        }
+        refused("2: FULL", 40, x -> x.value(1, 3), ExactShares.FULL);
+        refused("4: FULL", 40, x -> x.over(0, 39), ExactShares.FULL);
+        refused("14: FULL", 40, x -> x.share(3, 0), ExactShares.FULL);
+        refused("19: FULL", 40, x -> x.test(3, 0), ExactShares.FULL);
     }
 }

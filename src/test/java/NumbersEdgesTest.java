@@ -168,6 +168,8 @@ public final class NumbersEdgesTest {
         keeps(sentence + "1/2", x -> x.act(3, Edge.HALF, Edge.NOUGHT), ZERO);
         keeps(sentence + "0", x -> x.act(3, Edge.NOUGHT, Edge.NOUGHT), ZERO);
         keeps(sentence + "the greatest", x -> x.act(3, Edge.GREATEST, Edge.NOUGHT), ZERO);
+        keeps(sentence + "the least above 0", x -> x.act(3, Edge.LEAST, Edge.NOUGHT), ZERO);
+        keeps(sentence + "one below 0", x -> x.act(3, Edge.MINUS, Edge.NOUGHT), ZERO);
         makes(sentence + "a is 0", x -> x.act(3, Edge.NOUGHT, Edge.LEAST), 0, 1);
         makes(sentence + "not of 0", x -> x.act(0, Edge.HALF, Edge.NOUGHT), 1, 2);
         makes(sentence + "not of 1", x -> x.act(1, Edge.HALF, Edge.NOUGHT), 1, 2);
@@ -190,6 +192,8 @@ public final class NumbersEdgesTest {
         keeps(sentence + "1/2", x -> x.over(Edge.HALF, Edge.NOUGHT), Edge.THROWN);
         keeps(sentence + "0", x -> x.over(Edge.NOUGHT, Edge.NOUGHT), Edge.THROWN);
         keeps(sentence + "the greatest", x -> x.over(Edge.GREATEST, Edge.NOUGHT), Edge.THROWN);
+        keeps(sentence + "the least above 0", x -> x.over(Edge.LEAST, Edge.NOUGHT), Edge.THROWN);
+        keeps(sentence + "one below 0", x -> x.over(Edge.MINUS, Edge.NOUGHT), Edge.THROWN);
         makes(sentence + "a is 0", x -> x.over(Edge.NOUGHT, Edge.LEAST), 0, 1);
         Supplier<ExactShares> tiny = () -> Due.with(1, MAX, -1, MAX);
         Edge.makes(sentence + "b is the least above 0", tiny, x -> x.over(0, 0), 1, 1);
